@@ -20,6 +20,7 @@ public final class ChancesTest {
         harm();
         likely();
         greatestFractions();
+        eachThrowItsOwnCase();
         due.end();
     }
 
@@ -167,6 +168,8 @@ public final class ChancesTest {
         due.is("none of it", x.brings(7, 0), 0);
         due.is("thing below", x.brings(7, -1), Due.BEYOND);
         due.is("set below", x.brings(-1, 0), Due.BEYOND);
+        x.lay(0);
+        due.is("a throw without heads is one", x.brings(7, 3), 0);
     }
 
     private static void met() {
@@ -189,6 +192,8 @@ public final class ChancesTest {
         due.is("broken ahead", x.met(4), 0);
         due.is("nothing", x.met(0), 0);
         due.is("below", x.met(-1), Due.BEYOND);
+        x.lay(0);
+        due.is("a throw without heads is one", x.met(7), 0);
     }
 
     private static void weight() {
@@ -389,6 +394,8 @@ public final class ChancesTest {
         }
         y.coin(0, 5, 6);
         due.is("all ten", y.likely(1023), 10);
+        y.coin(0, 1, 6);
+        due.is("nothing is left of the call ahead", y.likely(1023), 0);
     }
 
     private static void greatestFractions() {
@@ -419,5 +426,35 @@ public final class ChancesTest {
             x.coin(i, 6, 6);
         }
         fraction("sure", x.mean(1023, 0), x.mean(1023, 1), 980, 1);
+    }
+
+    /** Eight promises by eight coins: no two throws keep the same ones, and each weighs 1. */
+    private static void eachThrowItsOwnCase() {
+        due.at("19 to 26, all throws apart");
+        PromiseCoins x = new PromiseCoins();
+        for (int i = 0; i < 8; i++) {
+            x.promise(0, i, 0, 1);
+            x.change(i, 5, 1 << i % 5);
+        }
+        x.need(0, 8, 64);
+        x.need(0, 1, 64);
+        fraction("all eight", x.sure(0, 255, 0), x.sure(0, 255, 1), 1, 256);
+        fraction("one of them", x.sure(1, 255, 0), x.sure(1, 255, 1), 255, 256);
+        fraction("all needs", x.all(255, 0), x.all(255, 1), 1, 256);
+        fraction("worth", x.worth(255, 0), x.worth(255, 1), 64, 1);
+        fraction("mean", x.mean(255, 0), x.mean(255, 1), 19, 1);
+        fraction("harm", x.harm(255, 37, 0), x.harm(255, 37, 1), 1, 256);
+        fraction("harm", x.harm(255, 0, 0), x.harm(255, 0, 1), 255, 256);
+        due.is("likely", x.likely(255), 4);
+        due.is("fewest", x.fewest(0, 1, 256), 255);
+        due.is("fewest, a little more", x.fewest(0, 4, 999), Due.NONE);
+        due.is("most", x.most(37, 1, 256), 255);
+        due.is("most, a little less", x.most(37, 3, 999), 127);
+        fraction("chance", x.chance(7, 0), x.chance(7, 1), 1, 2);
+        fraction("joint", x.joint(0, 7, 1, 0), x.joint(0, 7, 1, 1), 3, 4);
+        for (int i = 0; i < 8; i++) {
+            x.coin(i, 5, 6);
+        }
+        fraction("in lowest terms as it is", x.sure(0, 255, 0), x.sure(0, 255, 1), 390625, 1679616);
     }
 }

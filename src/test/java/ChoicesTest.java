@@ -146,6 +146,12 @@ public final class ChoicesTest {
         due.is("the last coin", y.helps(), 7);
         y.coin(7, 3, 3);
         due.is("of several the least", y.helps(), 1);
+        PromiseCoins w = new PromiseCoins();
+        for (int i = 0; i < 8; i++) {
+            w.promise(5, i, 0, 1);
+        }
+        w.need(0, 8, 1);
+        due.is("each coin does harm", w.helps(), 0);
     }
 
     private static void hangs() {

@@ -287,14 +287,16 @@ public final class TownTest {
         x.promise(0, 0, 0, 1);
         x.promise(6, 1, 2, 3);
         x.change(1, 5, 30);
-        x.hold(0, 0);
+        x.hold(0, 1);
+        x.hold(1, 0);
         x.hold(3, 1);
         x.hold(9, 1);
         due.is("one left", x.drop(), 1);
         due.is("spots", x.count(6), 1);
         due.is("spot of the dropped", x.as(3, 0), Due.MISSING);
         due.is("other spot of it", x.as(9, 0), Due.MISSING);
-        due.is("spot of the other", x.as(0, 0), 0);
+        due.is("first spot of it", x.as(0, 0), Due.MISSING);
+        due.is("spot of the other", x.as(1, 0), 0);
         due.is("gone", x.promiseOf(1, 0), Due.BEYOND);
         due.is("a new one", x.promise(0, 3, 3, 3), 1);
         promiseIs(x, 1, 0, 3, 3, 3, 3, 0);
