@@ -1295,14 +1295,10 @@ public final class PromiseCoins {
                     return items;
                 }
                 if (sort != SIGN) {
-                    return mark();
+                    break;
                 }
                 stepOn();
             }
-            return mark();
-        }
-
-        int mark() {
             fault = start;
             return -1;
         }
@@ -1313,40 +1309,31 @@ public final class PromiseCoins {
                 start++;
             }
             end = start;
-            if (start >= tape.length) {
-                sort = END;
-            } else if (isLetter(start)) {
-                sort = WORD;
-                passLetters();
-            } else if (isDigit(start)) {
-                sort = NUMBER;
-                passDigits();
-            } else {
-                sort = tape.bytes[start] == ';' ? SIGN : OTHER;
-                end++;
-            }
-        }
-
-        void passLetters() {
-            while (end < tape.length && isLetter(end)) {
-                end++;
-            }
-        }
-
-        void passDigits() {
+            sort = sortAt(start);
             value = 0;
-            while (end < tape.length && isDigit(end)) {
-                value = Math.min(value * 10 + tape.bytes[end] - '0', TOO_MUCH);
+            while (end < tape.length && sortAt(end) == sort) {
+                if (sort == NUMBER) {
+                    value = Math.min(value * 10 + tape.bytes[end] - '0', TOO_MUCH);
+                }
                 end++;
+                if (sort == SIGN || sort == OTHER) {
+                    break;
+                }
             }
         }
 
-        boolean isLetter(int place) {
-            return isBetween(tape.bytes[place], 'a', 'z');
-        }
-
-        boolean isDigit(int place) {
-            return isBetween(tape.bytes[place], '0', '9');
+        int sortAt(int place) {
+            if (place < 0 || place >= tape.length) {
+                return END;
+            }
+            int sign = tape.bytes[place];
+            if (sign >= 'a' && sign <= 'z') {
+                return WORD;
+            }
+            if (sign >= '0' && sign <= '9') {
+                return NUMBER;
+            }
+            return sign == ';' ? SIGN : OTHER;
         }
 
         boolean isWord(String word) {
@@ -1391,25 +1378,26 @@ public final class PromiseCoins {
 
         /** The number, or -1 at a fault: no number of a text is below 0. */
         int takeNumber(int least, int greatest) {
-            if (sort != NUMBER || !isBetween(value, least, greatest)) {
-                return mark();
+            if (sort != NUMBER || value < least || value > greatest) {
+                fault = start;
+                return -1;
             }
             int taken = value;
             stepOn();
             return taken;
         }
 
-        int takePart(int what) {
-            return takeNumber(PART_LEAST[what], PART_MOST[what]);
-        }
-
-        boolean takeWord(String word) {
+        boolean passWord(String word) {
             if (!isWord(word)) {
-                mark();
                 return false;
             }
             stepOn();
             return true;
+        }
+
+        boolean faultHere() {
+            fault = start;
+            return false;
         }
 
         boolean readItem() {
@@ -1420,11 +1408,7 @@ public final class PromiseCoins {
                 return readNeed();
             }
             int kind = kindOfWord();
-            if (kind < 0) {
-                mark();
-                return false;
-            }
-            return readPromise(kind);
+            return kind < 0 ? faultHere() : readPromise(kind);
         }
 
         boolean readCoin() {
@@ -1434,8 +1418,11 @@ public final class PromiseCoins {
                 return false;
             }
             int a = takeNumber(0, MOST_SIDES);
-            if (a < 0 || !takeWord("in")) {
+            if (a < 0) {
                 return false;
+            }
+            if (!passWord("in")) {
+                return faultHere();
             }
             int b = takeNumber(Math.max(1, a), MOST_SIDES);
             if (b < 0) {
@@ -1448,27 +1435,29 @@ public final class PromiseCoins {
 
         boolean readPromise(int kind) {
             if (draft.promises >= MOST_PROMISES) {
-                mark();
-                return false;
+                return faultHere();
             }
             stepOn();
-            int coin = takePart(1);
+            int coin = takeNumber(0, COINS - 1);
             if (coin < 0) {
                 return false;
             }
-            int second = isWord("with") ? takeBehindWord(2) : coin;
-            if (second < 0 || !takeWord("brings")) {
+            int second = passWord("with") ? takeNumber(0, COINS - 1) : coin;
+            if (second < 0) {
                 return false;
             }
-            int thing = takePart(PART_THING);
+            if (!passWord("brings")) {
+                return faultHere();
+            }
+            int thing = takeNumber(PART_LEAST[PART_THING], PART_MOST[PART_THING]);
             if (thing < 0) {
                 return false;
             }
-            int number = takePart(PART_NUMBER);
+            int number = takeNumber(PART_LEAST[PART_NUMBER], PART_MOST[PART_NUMBER]);
             if (number < 0) {
                 return false;
             }
-            int cost = isWord("cost") ? takeBehindWord(PART_COST) : 0;
+            int cost = passWord("cost") ? takeNumber(PART_LEAST[PART_COST], PART_MOST[PART_COST]) : 0;
             if (cost < 0) {
                 return false;
             }
@@ -1476,15 +1465,9 @@ public final class PromiseCoins {
             return true;
         }
 
-        int takeBehindWord(int what) {
-            stepOn();
-            return takePart(what);
-        }
-
         boolean readNeed() {
             if (draft.needs >= MOST_NEEDS) {
-                mark();
-                return false;
+                return faultHere();
             }
             stepOn();
             int thing = takeNumber(NEED_LEAST[0], NEED_MOST[0]);
@@ -1495,11 +1478,7 @@ public final class PromiseCoins {
             if (number < 0) {
                 return false;
             }
-            int worth = 1;
-            if (isWord("worth")) {
-                stepOn();
-                worth = takeNumber(NEED_LEAST[2], NEED_MOST[2]);
-            }
+            int worth = passWord("worth") ? takeNumber(NEED_LEAST[2], NEED_MOST[2]) : 1;
             if (worth < 0) {
                 return false;
             }

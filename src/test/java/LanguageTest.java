@@ -5,7 +5,9 @@ import java.lang.reflect.Modifier;
 import java.nio.charset.StandardCharsets;
 import java.nio.file.Files;
 import java.nio.file.Path;
+import java.util.Map;
 import java.util.Set;
+import java.util.TreeMap;
 import java.util.TreeSet;
 import java.util.regex.Matcher;
 import java.util.regex.Pattern;
@@ -13,6 +15,8 @@ import java.util.regex.Pattern;
 /** Rules of LANGUAGE.md that can be seen from the class or from its text. It is run at the project's root. */
 public final class LanguageTest {
     private static final Due due = new Due();
+    private static final Pattern METHOD =
+            Pattern.compile("(?m)^( {4}| {8})(?!(?:if|for|while|switch|return) )(?:\\w+(?:\\[\\])? )*(\\w+)\\([^;={}\n]*\\) \\{$");
     private static final String FACE = "feed/2 wipe/0 town/0 coin/3 promise/4 promiseOf/2 change/3 drop/0 need/3 "
             + "needOf/2 cast/0 lay/1 kept/0 owes/1 brings/2 met/1 weight/1 chance/2 joint/4 sure/3 all/2 mean/2 "
             + "worth/2 harm/3 likely/1 fewest/3 cheapest/3 most/3 best/0 helps/0 hangs/1 asks/1 apart/2 tries/3 "
@@ -88,11 +92,12 @@ public final class LanguageTest {
                 !Pattern.compile("\\b(System\\.(?!arraycopy)|Long\\.|Arrays|String\\.|Math\\.\\w*Exact|Thread|Runtime)")
                         .matcher(bare).find());
         lengths(bare);
+        depths(bare);
         makesNothingInCalls(bare);
     }
 
     private static void lengths(String bare) {
-        Matcher m = Pattern.compile("(?m)^( {4}| {8})(?!private static final class)\\w[^;=]*\\) \\{$").matcher(bare);
+        Matcher m = METHOD.matcher(bare);
         int methods = 0;
         while (m.find()) {
             int end = bare.indexOf("\n" + m.group(1) + "}", m.end());
@@ -101,6 +106,34 @@ public final class LanguageTest {
             due.holds(m.group().trim() + " has " + lines + " lines", lines <= 60);
         }
         due.holds("methods were found: " + methods, methods > 100);
+    }
+
+    /** Methods are told apart by name alone: so a depth may be told too great, never too small. */
+    private static void depths(String bare) {
+        Map<String, Set<String>> calls = new TreeMap<>();
+        Matcher m = METHOD.matcher(bare);
+        while (m.find()) {
+            String body = bare.substring(m.end(), bare.indexOf("\n" + m.group(1) + "}", m.end()));
+            Set<String> called = calls.computeIfAbsent(m.group(2), k -> new TreeSet<>());
+            Matcher call = Pattern.compile("\\b(\\w+)\\(").matcher(body);
+            while (call.find()) {
+                called.add(call.group(1));
+            }
+        }
+        for (String from : calls.keySet()) {
+            int depth = depth(from, calls, 0);
+            due.holds("calls from " + from + " go " + depth + " deep", depth <= 8);
+        }
+    }
+
+    private static int depth(String from, Map<String, Set<String>> calls, int above) {
+        int deepest = 0;
+        if (above < 20) {
+            for (String to : calls.getOrDefault(from, Set.of())) {
+                deepest = Math.max(deepest, depth(to, calls, above + 1));
+            }
+        }
+        return 1 + deepest;
     }
 
     /** All calls of a run live in one room: rows are made with the object, and never by a call. */
