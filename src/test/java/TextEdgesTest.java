@@ -15,6 +15,7 @@ public final class TextEdgesTest {
         numbersThatAreTooLong();
         numbersThatWrapAround();
         bytesBesideLettersAndDigits();
+        eachLetterAndEachDigit();
         bytesThatBeginNoToken();
         wordsAsLongAsCanBe();
         eachWordOfAKind();
@@ -180,6 +181,24 @@ public final class TextEdgesTest {
             fault("need 0 1 ;" + bad, 10);
             fault("need 0 1 worth" + bad, 14);
             fault("need 0 1 worth 5" + bad, 16);
+        }
+    }
+
+    private static void eachLetterAndEachDigit() {
+        due.at("Terms 3: 'WORDS (letters a to z), NUMBERS (digits ..)', 'each as long as can be': a to z, 0 to 9");
+        for (char letter = 'a'; letter <= 'z'; letter++) {
+            fault("coin" + letter + " 0 1 in 3", 0);
+            fault(letter + "coin 0 1 in 3", 0);
+            fault("coin 0 1 in" + letter + " 3", 9);
+            fault("coin 0 1 " + letter + "in 3", 9);
+            fault("coin 0 1 in 3" + letter, 13);
+            fault("coin 0" + letter + " 1 in 3", 6);
+        }
+        for (char digit = '0'; digit <= '9'; digit++) {
+            fault("coin 0 1 in 3" + digit, 12);
+            fault("coin 0 1 in 3 " + digit, 14);
+            fault("coin 0 1" + digit + " in 3", 7);
+            fault(digit + "coin 0 1 in 3", 0);
         }
     }
 
