@@ -19,6 +19,8 @@ public final class TextEdgesTest {
         bytesThatBeginNoToken();
         wordsAsLongAsCanBe();
         eachWordOfAKind();
+        oneTokenLeftOut();
+        oneTokenTwice();
         endsTooEarly();
         separators();
         promisesUpToTen();
@@ -259,6 +261,59 @@ public final class TextEdgesTest {
             fault(word + " 8 brings 2 1", n + 1);
             fault(word + " brings 2 1", n + 1);
             fault(word + " 3 3 brings 2 1", n + 3);
+        }
+    }
+
+    private static void oneTokenLeftOut() {
+        due.at("Terms 3: 'the first byte of the first TOKEN that can't stand there', if the one ahead is left out");
+        fault("0 1 in 3", 0);
+        fault("coin 1 in 3", 7);
+        fault("coin 0 1 3", 9);
+        fault("coin 0 1 in", 11);
+        fault("coin in 3", 5);
+        fault("0 1 worth 5", 0);
+        fault("need 1 worth 5", 7);
+        fault("need worth 5", 5);
+        fault("need 0 1 5", 9);
+        fault("need 0 1 worth", 14);
+        for (String kind : KINDS) {
+            int n = kind.length();
+            fault(kind + " with 1 brings 2 3 cost 4", n + 1);
+            fault(kind + " brings 2 3 cost 4", n + 1);
+            fault(kind + " cost 4", n + 1);
+            fault(kind + " 0 1 brings 2 3 cost 4", n + 3);
+            fault(kind + " 0 with brings 2 3 cost 4", n + 8);
+            fault(kind + " 0 with 1 2 3 cost 4", n + 10);
+            fault(kind + " 0 with 1 cost 4", n + 10);
+            fault(kind + " 0 with 1 brings 3 cost 4", n + 19);
+            fault(kind + " 0 with 1 brings cost 4", n + 17);
+            fault(kind + " 0 with 1 brings 2 3 4", n + 21);
+            fault(kind + " 0 with 1 brings 2 3 cost", n + 25);
+        }
+    }
+
+    private static void oneTokenTwice() {
+        due.at("Terms 3: 'the first byte of the first TOKEN that can't stand there', if one is told twice");
+        fault("coin coin 0 1 in 3", 5);
+        fault("coin 0 0 1 in 3", 9);
+        fault("coin 0 1 in in 3", 12);
+        fault("coin 0 1 in 3 3", 14);
+        fault("coin 0 1 in 3 in 3", 14);
+        fault("need need 0 1", 5);
+        fault("need 0 1 1 worth 5", 9);
+        fault("need 0 1 worth worth 5", 15);
+        fault("need 0 1 worth 5 5", 17);
+        for (String kind : KINDS) {
+            int n = kind.length();
+            fault(kind + " " + kind + " 0 with 1 brings 2 3 cost 4", n + 1);
+            fault(kind + " 0 0 with 1 brings 2 3 cost 4", n + 3);
+            fault(kind + " 0 with with 1 brings 2 3 cost 4", n + 8);
+            fault(kind + " 0 with 1 1 brings 2 3 cost 4", n + 10);
+            fault(kind + " 0 with 1 brings brings 2 3 cost 4", n + 17);
+            fault(kind + " 0 with 1 brings 2 2 3 cost 4", n + 21);
+            fault(kind + " 0 with 1 brings 2 3 cost cost 4", n + 26);
+            fault(kind + " 0 with 1 brings 2 3 cost 4 4", n + 28);
+            fault(kind + " 0 with 1 brings 2 3 cost 4 with 1", n + 28);
         }
     }
 
