@@ -31,6 +31,7 @@ public final class LanguageTest {
                     && !Modifier.isPublic(inside.getModifiers()) && !Modifier.isProtected(inside.getModifiers()));
             members(inside);
         }
+        documentsFace();
         text();
         due.end();
     }
@@ -57,6 +58,30 @@ public final class LanguageTest {
                 && made[0].getParameterCount() == 0);
         due.holds("public and final", Modifier.isPublic(PromiseCoins.class.getModifiers())
                 && Modifier.isFinal(PromiseCoins.class.getModifiers()));
+    }
+
+    /** Each line of the document's face, with the names of its numbers, and each heading ahead of its calls. */
+    private static void documentsFace() throws Exception {
+        due.at("the document's face");
+        String document = Files.readString(Path.of("../shared/DOC.md"));
+        String text = Files.readString(Path.of("src/main/java/PromiseCoins.java"));
+        int begin = document.indexOf("public final class PromiseCoins {");
+        int lines = 0;
+        for (String line : document.substring(begin, document.indexOf("```", begin)).split("\n")) {
+            if (line.endsWith(";")) {
+                due.holds(line, text.contains("\n" + line.replace(";", " {") + "\n"));
+                lines++;
+            }
+        }
+        due.is("constructor and methods", lines, 48);
+        Matcher m = Pattern.compile("Ahead of the calls `(\\w+)`.*: (---- .*)\\.").matcher(document);
+        int headings = 0;
+        while (m.find()) {
+            String ahead = "    // " + m.group(2) + "\n\n    public int " + m.group(1) + "(";
+            due.holds(m.group(2), text.contains(ahead));
+            headings++;
+        }
+        due.is("headings", headings, 7);
     }
 
     private static void members(Class<?> c) {
